@@ -390,8 +390,8 @@ public final class SavingsCircle {
     }
 
     /**
-     * The bits of a float that is 0 or a normal positive one. The library's own function is not
-     * among those that LANGUAGE.md allows; doubling and halving are exact, so nothing is lost.
+     * The bits of a float that is 0 or more and below 16777216 (no rate is as great as that). The
+     * library's own function is not among those that LANGUAGE.md allows; doubling is exact.
      */
     private static int bitsOf(float value) {
         if (value <= 0f) {
@@ -402,10 +402,6 @@ public final class SavingsCircle {
         for (int k = 0; k < 126 && scaled < 8388608f; k++) {
             scaled = scaled * 2f;
             exponent--;
-        }
-        for (int k = 0; k < 126 && scaled >= 16777216f; k++) {
-            scaled = scaled / 2f;
-            exponent++;
         }
         return (exponent << 23) + ((int) scaled - 8388608);
     }

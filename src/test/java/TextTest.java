@@ -114,6 +114,23 @@ final class TextTest {
         String hundred = eight + "g01".repeat(20) + "b0001";
         position(hundred, ok);
         position(hundred.substring(0, 99) + "x", 99);
+        position(eight + "g01".repeat(19) + "b0001m00", 97);
+        position("C10m000" + "b0000".repeat(18) + "b00", 100);
+        position("C10m000" + "b0000".repeat(18) + "b0", 99);
+        earlierSigns();
+    }
+
+    /** What stood in the buffer before it was emptied is not read. */
+    private static void earlierSigns() {
+        SavingsCircle x = new SavingsCircle();
+        String text = "C10m123m456g01b1789";
+        for (int length = 0; length < text.length(); length++) {
+            Check.write(x, text);
+            Check.due("errorPosition of the whole", x.errorPosition(), Check.NONE);
+            Check.write(x, text.substring(0, length));
+            boolean whole = length == 3 || length == 7 || length == 11 || length == 14;
+            Check.due("errorPosition of the first " + length, x.errorPosition(), whole ? Check.NONE : length);
+        }
     }
 
     private static void position(String text, int due) {
