@@ -155,6 +155,16 @@ final class QueryEdgesTest {
         x.give(0, 30);
         x.repay(0, 1);
         Check.due("nor is what is repaid", x.member(0, 6) + x.member(0, 7), 0);
+        SavingsCircle sum = Check.circle("C10m000m500g01");
+        sum.stayAway(1, true);
+        for (int k = 0; k <= 4; k++) {
+            Check.due("for itself in " + k + " months", sum.member(1, 6), k == 0 ? 0 : 11 * k - 1);
+            Check.due("for another in " + k + " months", sum.member(1, 7), k == 0 ? 0 : 11 * k - 1);
+            sum.stayAway(1, false);
+            sum.stayAway(0, true);
+            sum.month();
+            sum.setContribution(11);
+        }
     }
 
     private static void memberMissed() {
@@ -268,6 +278,10 @@ final class QueryEdgesTest {
         great.bid(0, 3);
         great.month();
         Check.due("4 to 1", great.rate(0), 0x40800000);
+        SavingsCircle both = Check.circle("C10m100m005m300g10b2015");
+        both.month();
+        Check.due("7 to 10 for itself and 10 for another", both.rate(0), Float.floatToIntBits(7f / 20f));
+        Check.due("15 to 10", both.rate(2), 0x3fc00000);
         SavingsCircle small = Check.circle("C50m999m999b0001");
         small.month();
         small.stayAway(1, true);

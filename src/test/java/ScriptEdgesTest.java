@@ -13,6 +13,7 @@ final class ScriptEdgesTest {
         leadingZeros();
         firstThatFails();
         everyGroup();
+        effects();
         monthsOfScripts();
         giftsOfScripts();
         numbers();
@@ -130,6 +131,24 @@ final class ScriptEdgesTest {
             }
             Check.due("runScript(1, " + group + ")", x.runScript(1, group), facts.allow(group) ? NONE : 0);
         }
+    }
+
+    private static void effects() {
+        Check.says(28, "2 i x y z: bid(i, xyz). 3 i g 0 0: setGuarantor(i, g). 4 i s 0 0: stayAway(i, s is 1) (s is 0 or 1). 5 i x y z: give(i, xyz). 6 i 0 0 0: leave(i).");
+        SavingsCircle x = Check.circle("C10m100m000m100");
+        Check.due("the bid of 1 of the last one", x.runScript(3, 22001_10001_92000L), NONE);
+        Check.due("its bid of 0", x.runScript(3, 22000_10001_92000L), 2);
+        Check.due("a guarantor: 10 are owed", x.runScript(3, 31000_10001_81010L), NONE);
+        Check.due("a guarantor: no less", x.runScript(3, 31000_10001_81009L), 2);
+        Check.due("another guarantor: nothing is owed to 0", x.runScript(3, 31200_10001_81000L), NONE);
+        Check.due("a mark", x.runScript(3, 40100_10001_92000L), NONE);
+        Check.due("a mark that does not stay", x.runScript(3, 40000_10001_92000L), 2);
+        Check.due("a gift", x.runScript(2, 51003_71003L), NONE);
+        Check.due("no greater one", x.runScript(2, 51003_71004L), 1);
+        Check.due("one that left", x.runScript(3, 60000_10001_92000L), NONE);
+        x.stayAway(0, true);
+        Check.due("a mark taken away", x.runScript(3, 40000_10001_90000L), NONE);
+        Check.due("a mark that stays", x.runScript(3, 40100_10001_90000L), 2);
     }
 
     private static void monthsOfScripts() {

@@ -383,37 +383,54 @@ final class TermsEdgesTest {
         Check.due("a bid of 0", none.about(4), 0);
     }
 
-    /** 0 owes 10 to 1 and 20 to 2, and takes a pot that it alone has paid. */
+    /** One of three owes something to both others, and takes a pot that it alone has paid. */
     private static void paidBack() {
         Check.says(0, "With the rest of the pot it pays those whom it owes something, ascending, as far as it goes; what is left then comes into its purse.");
         for (int pot = 1; pot <= 50; pot++) {
-            SavingsCircle x = twoDebts();
-            x.give(0, pot);
-            x.setContribution(pot);
-            x.stayAway(1, true);
-            x.stayAway(2, true);
-            int first = x.member(1, 0);
-            int second = x.member(2, 0);
-            Check.due("the debtor takes it", x.month(), 0);
-            Check.due("pot " + pot + ": owes(0, 1)", x.owes(0, 1), Math.max(0, 10 - pot));
-            Check.due("pot " + pot + ": owes(0, 2)", x.owes(0, 2), Math.max(0, Math.min(20, 30 - pot)));
-            Check.due("purse of 1", x.member(1, 0), first + Math.min(10, pot));
-            Check.due("purse of 2", x.member(2, 0), second + Math.max(0, Math.min(20, pot - 10)));
-            Check.due("purse of 0", x.member(0, 0), Math.max(0, pot - 30));
-            Check.due("what it got of the pot", x.member(0, 8), pot);
-            Check.due("what is owed to a creditor is no share", x.member(1, 9) + x.member(2, 9), 0);
+            for (int debtor = 0; debtor < 3; debtor++) {
+                int low = debtor == 0 ? 1 : 0;
+                paidBack(pot, debtor, low, 3 - debtor - low, twoDebts(debtor, low, 3 - debtor - low));
+                paidBack(pot, debtor, low, 3 - debtor - low, twoDebts(debtor, 3 - debtor - low, low));
+            }
         }
     }
 
-    private static SavingsCircle twoDebts() {
-        SavingsCircle x = Check.circle("C10m000m500m500g01b1001");
+    /** The debt to the first creditor is 10, that to the second one, which is a month younger, 20. */
+    private static SavingsCircle twoDebts(int debtor, int first, int second) {
+        SavingsCircle x = new SavingsCircle();
+        for (int i = 0; i < 3; i++) {
+            x.addMember(i == debtor ? 0 : 500);
+        }
+        x.setGuarantor(debtor, first);
+        x.bid(first, 1);
         x.month();
         x.setContribution(20);
-        x.setGuarantor(0, 2);
-        x.bid(2, 1);
+        x.setGuarantor(debtor, second);
+        x.bid(second, 1);
         x.month();
-        Check.due("the debts at first", 100 * x.owes(0, 1) + x.owes(0, 2), 1020);
+        Check.due("the debts at first", 100 * x.owes(debtor, first) + x.owes(debtor, second), 1020);
         return x;
+    }
+
+    private static void paidBack(int pot, int debtor, int low, int high, SavingsCircle x) {
+        x.give(debtor, pot);
+        x.setContribution(pot);
+        x.stayAway(low, true);
+        x.stayAway(high, true);
+        int lowPurse = x.member(low, 0);
+        int highPurse = x.member(high, 0);
+        int owedLow = x.owes(debtor, low);
+        int owedHigh = x.owes(debtor, high);
+        int toLow = Math.min(pot, owedLow);
+        int toHigh = Math.min(pot - toLow, owedHigh);
+        Check.due("the debtor takes it", x.month(), debtor);
+        Check.due("pot " + pot + ": owed to the lower one", x.owes(debtor, low), owedLow - toLow);
+        Check.due("pot " + pot + ": owed to the higher one", x.owes(debtor, high), owedHigh - toHigh);
+        Check.due("purse of the lower one", x.member(low, 0), lowPurse + toLow);
+        Check.due("purse of the higher one", x.member(high, 0), highPurse + toHigh);
+        Check.due("purse of the debtor", x.member(debtor, 0), pot - toLow - toHigh);
+        Check.due("what it got of the pot", x.member(debtor, 8), pot);
+        Check.due("what is paid back is no share", x.member(low, 9) + x.member(high, 9), 0);
     }
 
     private static void afterTheMonth() {
@@ -497,6 +514,17 @@ final class TermsEdgesTest {
         Check.due("1 has paid for itself and for another", 100 * x.member(1, 6) + x.member(1, 7), 1010);
         Check.due("what it paid for another does not count", x.leave(1), 5);
         Check.due("nor for the other one", x.leave(2), 0);
+        SavingsCircle sum = Check.circle("C03m999m999m999m999");
+        sum.month();
+        sum.bid(2, 1);
+        sum.month();
+        sum.bid(3, 1);
+        sum.month();
+        sum.setContribution(50);
+        sum.stayAway(1, true);
+        sum.month();
+        Check.due("three times 3", sum.member(1, 6), 9);
+        Check.due("half of the sum, not the sum of halves", sum.leave(1), 4);
     }
 
     /** The one that has taken the pot has just enough for all who wait, or one penny less. */
