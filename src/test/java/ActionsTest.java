@@ -1,8 +1,11 @@
+import java.io.IOException;
+
 /** Promises 11 to 20: addMember, setContribution, setGuarantor, bid, stayAway, give, month, leave, repay, undo. */
 final class ActionsTest {
     private static final int NONE = Check.NONE;
 
-    public static void main(String[] args) {
+    public static void main(String[] args) throws IOException {
+        Check.readDocument(args);
         addMember();
         setContribution();
         setGuarantor();
@@ -21,6 +24,7 @@ final class ActionsTest {
     }
 
     private static void addMember() {
+        Check.says(11, "Returns its number.");
         SavingsCircle x = new SavingsCircle();
         Check.refused(x, "addMember(-1)", Check.ARGUMENT, () -> x.addMember(-1));
         Check.refused(x, "addMember(1000)", Check.ARGUMENT, () -> x.addMember(1000));
@@ -44,6 +48,8 @@ final class ActionsTest {
     }
 
     private static void setContribution() {
+        Check.says(12, "Changes the contribution.");
+        Check.says(12, "Returns the previous one.");
         SavingsCircle x = new SavingsCircle();
         Check.due("setContribution(1)", x.setContribution(1), 10);
         Check.due("setContribution(50)", x.setContribution(50), 1);
@@ -55,6 +61,8 @@ final class ActionsTest {
     }
 
     private static void setGuarantor() {
+        Check.says(13, "Changes the guarantor of a member.");
+        Check.says(13, "`i`: member");
         SavingsCircle x = Check.circle("C10m010m020m030");
         Check.due("setGuarantor(0, 2)", x.setGuarantor(0, 2), NONE);
         Check.due("setGuarantor(0, 1)", x.setGuarantor(0, 1), 2);
@@ -72,6 +80,9 @@ final class ActionsTest {
     }
 
     private static void bid() {
+        Check.says(14, "Changes a bid.");
+        Check.says(14, "`i`: member");
+        Check.says(14, "Returns the previous bid.");
         SavingsCircle x = Check.circle("C10m010m020b0007");
         Check.due("bid(0, 999)", x.bid(0, 999), 7);
         Check.due("bid(0, 0)", x.bid(0, 0), 999);
@@ -93,6 +104,9 @@ final class ActionsTest {
     }
 
     private static void stayAway() {
+        Check.says(15, "Changes whether a member stays away this month.");
+        Check.says(15, "`i`: member");
+        Check.says(15, "`is`: whether it does then");
         SavingsCircle x = Check.circle("C10m010m020");
         Check.due("stayAway(1, true)", x.stayAway(1, true) ? 1 : 0, 0);
         Check.due("stayAway(1, true) again", x.stayAway(1, true) ? 1 : 0, 1);
@@ -110,6 +124,9 @@ final class ActionsTest {
     }
 
     private static void give() {
+        Check.says(16, "Gives pence to a member.");
+        Check.says(16, "`i`: member");
+        Check.says(16, "Returns its purse then.");
         SavingsCircle x = Check.circle("C10m010m000");
         Check.due("give(0, 1)", x.give(0, 1), 11);
         Check.due("give(1, 999)", x.give(1, 999), 999);
@@ -139,6 +156,9 @@ final class ActionsTest {
 
     /** Parts 1 and 2. */
     private static void monthPays() {
+        Check.says(17, "Lets a month go by.");
+        Check.says(0, "A month goes by like this:");
+        Check.says(0, "For each member in the circle who has not paid, ascending:");
         SavingsCircle exact = Check.circle("C10m010m009");
         exact.month();
         purses("just the contribution, and one less", exact, 0, 10, 9);
@@ -241,6 +261,7 @@ final class ActionsTest {
 
     /** Part 4. */
     private static void monthShares() {
+        Check.says(0, "Of the pot, its bid (as it counts) is shared:");
         SavingsCircle three = Check.circle("C10m100m100m100m100b0011");
         Check.due("the bidder", three.month(), 0);
         purses("11 for three", three, 2, 90 + 29, 93, 93, 93);
@@ -324,6 +345,9 @@ final class ActionsTest {
     }
 
     private static void leave() {
+        Check.says(18, "A member leaves the circle.");
+        Check.says(18, "`i`: member");
+        Check.says(0, "A member in the circle can leave.");
         SavingsCircle x = Check.circle("C07m100m100m100b1003");
         Check.due("the winner", x.month(), 1);
         purses("after the month", x, 1, 94, 111, 94);
@@ -384,6 +408,9 @@ final class ActionsTest {
     }
 
     private static void repay() {
+        Check.says(19, "`i`: member who owes");
+        Check.says(19, "`j`: another member");
+        Check.says(19, "Returns the pence that it pays.");
         SavingsCircle x = Check.circle("C10m100m006g10");
         x.month();
         Check.due("owes(1, 0)", x.owes(1, 0), 10);
@@ -405,6 +432,7 @@ final class ActionsTest {
     }
 
     private static void undo() {
+        Check.says(20, "Takes back the last action that is remembered.");
         SavingsCircle x = new SavingsCircle();
         for (int k = 0; k < 20; k++) {
             x.setContribution(k + 1);
@@ -428,10 +456,9 @@ final class ActionsTest {
 
     /** Each action is remembered once; undo brings back all that can be asked. */
     private static void undoOfEach() {
-        SavingsCircle x = Check.circle("C10m100m006m100g10b2003");
-        x.month();
-        String before = Check.all(x);
+        String before = Check.all(afterAMonth());
         for (int k = 0; k < 9; k++) {
+            SavingsCircle x = afterAMonth();
             switch (k) {
                 case 0: x.addMember(4); break;
                 case 1: x.setContribution(4); break;
@@ -446,6 +473,7 @@ final class ActionsTest {
             Check.due("undo behind action " + k, x.undo(), 1);
             Check.same("undo of action " + k, Check.all(x), before);
         }
+        SavingsCircle x = afterAMonth();
         x.winner();
         x.pot();
         x.change(0);
@@ -459,5 +487,11 @@ final class ActionsTest {
         x.errorPosition();
         Check.same("none of these changes the state", Check.all(x), before);
         Check.due("nor is one of them remembered", x.undo(), 0);
+    }
+
+    private static SavingsCircle afterAMonth() {
+        SavingsCircle x = Check.circle("C10m100m006m100g10b2003");
+        x.month();
+        return x;
     }
 }

@@ -63,11 +63,11 @@ final class Check {
         return "  got " + (at < got.length ? got[at] : "less") + "\n  due " + (at < want.length ? want[at] : "less");
     }
 
-    /** The call throws exactly this exception, and changes nothing that can be asked. */
+    /** The call throws exactly this exception, and no number of the whole circle becomes another one. */
     static void refused(SavingsCircle x, String what, Class<? extends RuntimeException> due, LongSupplier call) {
-        String before = all(x);
+        String before = numbers(x);
         thrown(what, due, x, same -> call.getAsLong());
-        same(what + " must change nothing", all(x), before);
+        same(what + " must change nothing", numbers(x), before);
     }
 
     /**
@@ -77,9 +77,17 @@ final class Check {
      */
     static void leavesNoTrace(String what, Class<? extends RuntimeException> due,
             Supplier<SavingsCircle> making, ToLongFunction<SavingsCircle> call) {
-        SavingsCircle x = making.get();
-        thrown(what, due, x, call);
-        same(what + " must leave no trace", everything(x), everything(making.get()));
+        thrown(what, due, making.get(), call);
+        same(what + " must leave no trace", everything(() -> called(making.get(), call)), everything(making));
+    }
+
+    private static SavingsCircle called(SavingsCircle x, ToLongFunction<SavingsCircle> call) {
+        try {
+            call.applyAsLong(x);
+        } catch (RuntimeException e) {
+            // Whether it is the right one has been seen already.
+        }
+        return x;
     }
 
     private static void thrown(String what, Class<? extends RuntimeException> due,
@@ -97,11 +105,18 @@ final class Check {
         }
     }
 
-    static String all(SavingsCircle x) {
+    /** The numbers of the whole circle: 9 calls. */
+    static String numbers(SavingsCircle x) {
         StringBuilder s = new StringBuilder();
         for (int what = 0; what <= 8; what++) {
             s.append(x.about(what)).append(' ');
         }
+        return s.toString();
+    }
+
+    /** All that can be asked of a circle: 10 calls, and 18 more for each of 8 members. */
+    static String all(SavingsCircle x) {
+        StringBuilder s = new StringBuilder(numbers(x));
         int n = x.about(0);
         for (int i = 0; i < n; i++) {
             s.append('|');
@@ -115,20 +130,32 @@ final class Check {
         return s.append("text ").append(x.errorPosition()).toString();
     }
 
-    /** All that a circle holds, which is used up by that. */
-    static String everything(SavingsCircle x) {
-        StringBuilder s = new StringBuilder(all(x));
-        for (int left = undone(x); left != NONE; left = undone(x)) {
-            s.append("\n    undo, then ").append(left).append(" left: ").append(all(x));
+    /** All that a circle holds. An object is used for at most 512 calls, so each part is asked of a new one. */
+    static String everything(Supplier<SavingsCircle> making) {
+        StringBuilder s = new StringBuilder(all(making.get()));
+        int remembered = countRemembered(making.get());
+        for (int k = 1; k <= remembered; k++) {
+            SavingsCircle x = making.get();
+            s.append("\n    ").append(k).append(" times undo, then ").append(undone(x, k)).append(" left: ").append(all(x));
         }
         for (int slot = 0; slot < 2; slot++) {
+            SavingsCircle x = making.get();
             s.append("\n    slot ").append(slot).append(": ").append(restored(x, slot) ? all(x) : "empty");
         }
+        SavingsCircle x = making.get();
         if (x.errorPosition() == NONE) {
             x.load();
             s.append("\n    loaded: ").append(all(x));
         }
         return s.append("\n    text of ").append(x.clearText()).toString();
+    }
+
+    private static int undone(SavingsCircle x, int times) {
+        int left = NONE;
+        for (int k = 0; k < times; k++) {
+            left = undone(x);
+        }
+        return left;
     }
 
     private static int undone(SavingsCircle x) {
@@ -148,10 +175,10 @@ final class Check {
         }
     }
 
-    /** How many states are remembered; they are used up by that. */
+    /** How many states are remembered (50, if more than can be); they are used up by that. */
     static int countRemembered(SavingsCircle x) {
         int count = 0;
-        for (int left = undone(x); left != NONE; left = undone(x)) {
+        while (count < 50 && undone(x) != NONE) {
             count++;
         }
         return count;
@@ -164,6 +191,7 @@ final class Check {
         return x;
     }
 
+    /** One call more than the text has characters. */
     static void write(SavingsCircle x, String text) {
         x.clearText();
         for (int k = 0; k < text.length(); k++) {

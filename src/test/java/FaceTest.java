@@ -5,59 +5,91 @@ import java.lang.reflect.Method;
 import java.lang.reflect.Modifier;
 import java.nio.file.Files;
 import java.nio.file.Path;
+import java.util.ArrayList;
+import java.util.List;
 import java.util.Set;
 import java.util.TreeSet;
 
 /** The face is the document's, and the source keeps clear of what LANGUAGE.md rules out by name. */
 final class FaceTest {
-    private static final String[] METHODS = {
-        "int append(int)", "int clearText()", "int errorPosition()", "int load()", "int about(int)",
-        "int member(int,int)", "int owes(int,int)", "int chain(int)", "int rate(int)", "int addMember(int)",
-        "int setContribution(int)", "int setGuarantor(int,int)", "int bid(int,int)", "boolean stayAway(int,boolean)",
-        "int give(int,int)", "int month()", "int leave(int)", "int repay(int,int)", "int undo()", "int winner()",
-        "int pot()", "int change(int)", "int leastBid(int)", "int pillar()", "int when(int)", "int inTheEnd(int)",
-        "int runScript(int,long)", "int simulate(long,int)", "int save(int)", "int restore(int)"};
     private static final String[] RULED_OUT = {
         "import ", "->", "::", "finally", "synchronized", "assert ", "Exact(", "catch", "System.", "Float.", "Math.random"};
 
     public static void main(String[] args) throws IOException {
-        face();
+        Check.readDocument(args);
+        Doc doc = new Doc(Path.of(args[1]));
+        face(doc);
+        promises(doc);
+        none();
+        onlyTheFace();
         nested();
-        if (args.length > 0) {
-            source(Files.readString(Path.of(args[0])));
-        }
+        source(Files.readString(Path.of(args[0])));
         Check.end();
     }
 
-    private static void face() {
+    /** Types, names and exceptions, in the document's words but for the names of the parameters. */
+    private static void face(Doc doc) {
+        Set<String> due = new TreeSet<>();
+        for (String line : doc.face()) {
+            due.add(line.replaceAll("(int|long|boolean) [a-z]+(?=[,)])", "$1").replaceAll(" = .*|;| \\{", ""));
+        }
+        Set<String> got = new TreeSet<>();
         Class<?> c = SavingsCircle.class;
-        Check.due("public and final", c.getModifiers(), Modifier.PUBLIC | Modifier.FINAL);
-        Set<String> names = new TreeSet<>();
-        for (Method m : c.getDeclaredMethods()) {
-            String face = m.getReturnType() + " " + m.getName() + "(";
-            for (Class<?> type : m.getParameterTypes()) {
-                face += (face.endsWith("(") ? "" : ",") + type;
-            }
-            if (!Modifier.isPrivate(m.getModifiers())) {
-                Check.due(face + ") is public only", m.getModifiers(), Modifier.PUBLIC);
-                names.add(face + ")");
-            }
-        }
-        Check.same("the methods", names.toString(), new TreeSet<>(Set.of(METHODS)).toString());
+        got.add(Modifier.toString(c.getModifiers()) + " class " + c.getSimpleName());
         for (Field f : c.getDeclaredFields()) {
-            boolean none = f.getName().equals("NONE");
-            Check.due(f.getName() + " is private", Modifier.isPrivate(f.getModifiers()) ? 1 : 0, none ? 0 : 1);
+            if (!Modifier.isPrivate(f.getModifiers())) {
+                got.add(Modifier.toString(f.getModifiers()) + " " + f.getType() + " " + f.getName());
+            }
         }
-        Constructor<?>[] all = c.getDeclaredConstructors();
-        Check.due("constructors", all.length, 1);
-        Check.due("the constructor is public", all[0].getModifiers(), Modifier.PUBLIC);
+        for (Constructor<?> k : c.getDeclaredConstructors()) {
+            got.add(Modifier.toString(k.getModifiers()) + " " + k.getName() + names("(", k.getParameterTypes()) + ")");
+        }
+        for (Method m : c.getDeclaredMethods()) {
+            if (!Modifier.isPrivate(m.getModifiers())) {
+                got.add(Modifier.toString(m.getModifiers()) + " " + m.getReturnType() + " " + m.getName()
+                    + names("(", m.getParameterTypes()) + ")" + (m.getExceptionTypes().length > 0 ? names(" throws ", m.getExceptionTypes()) : ""));
+            }
+        }
+        Check.same("the face", String.join("\n", got), String.join("\n", due));
+        Check.due("class, constant, constructor and methods", due.size(), 33);
+    }
+
+    private static String names(String ahead, Class<?>[] types) {
+        List<String> names = new ArrayList<>();
+        for (Class<?> type : types) {
+            names.add(type.getSimpleName());
+        }
+        return ahead + String.join(", ", names);
+    }
+
+    /** Each promise is about one line of the face, in their order: the constructor, then the methods. */
+    private static void promises(Doc doc) {
+        List<String> face = doc.face();
+        for (int promise = 1; promise <= Doc.PROMISES; promise++) {
+            Check.same("promise " + promise, "public " + doc.signature(promise) + ";", face.get(1 + promise));
+        }
+    }
+
+    private static void none() {
+        Check.says(0, "The constants: `NONE = -99999`: There is no such result.");
+        Check.due("NONE", SavingsCircle.NONE, -99999);
+    }
+
+    private static void onlyTheFace() {
+        for (Field f : SavingsCircle.class.getDeclaredFields()) {
+            boolean constant = Modifier.isStatic(f.getModifiers());
+            Check.due(f.getName() + ": static fields are final", constant && !Modifier.isFinal(f.getModifiers()) ? 1 : 0, 0);
+        }
     }
 
     private static void nested() {
         Set<String> face = new TreeSet<>();
-        for (String method : METHODS) {
-            face.add(method.substring(method.indexOf(' ') + 1, method.indexOf('(')));
+        for (Method m : SavingsCircle.class.getMethods()) {
+            if (m.getDeclaringClass() == SavingsCircle.class) {
+                face.add(m.getName());
+            }
         }
+        Check.due("methods of the face", face.size(), 30);
         for (Class<?> c : SavingsCircle.class.getDeclaredClasses()) {
             for (Method m : c.getDeclaredMethods()) {
                 Check.due(m + " bears a name of the face", face.contains(m.getName()) ? 1 : 0, 0);

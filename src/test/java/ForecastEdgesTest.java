@@ -314,6 +314,7 @@ final class ForecastEdgesTest {
     }
 
     private static void theyChangeNothing() {
+        Check.says(0, "these and all following methods up to the save slots change nothing.");
         for (Supplier<SavingsCircle> making : Circles.all()) {
             int n = making.get().about(0);
             Check.leavesNoTrace("winner", Check.NOTHING, making, x -> x.winner());

@@ -1,8 +1,11 @@
+import java.io.IOException;
+
 /** Promises 21 to 27: winner, pot, change, leastBid, pillar, when, inTheEnd. */
 final class ForecastTest {
     private static final int NONE = Check.NONE;
 
-    public static void main(String[] args) {
+    public static void main(String[] args) throws IOException {
+        Check.readDocument(args);
         winnerAndPot();
         change();
         leastBid();
@@ -14,6 +17,8 @@ final class ForecastTest {
     }
 
     private static void winnerAndPot() {
+        Check.says(21, "Tells who would win.");
+        Check.says(22, "Tells how much would be in the pot.");
         SavingsCircle x = Check.circle("C10m100m005m300g10b2015");
         String before = Check.all(x);
         Check.due("winner", x.winner(), 2);
@@ -35,6 +40,8 @@ final class ForecastTest {
     }
 
     private static void change() {
+        Check.says(23, "Tells what a month would change.");
+        Check.says(23, "`i`: member");
         SavingsCircle x = Check.circle("C10m100m005m300g10b2015");
         Check.due("change(0)", x.change(0), -13);
         Check.due("change(1)", x.change(1), 7);
@@ -47,6 +54,8 @@ final class ForecastTest {
     }
 
     private static void leastBid() {
+        Check.says(24, "Tells which bid would do.");
+        Check.says(24, "`i`: member");
         SavingsCircle x = Check.circle("C10m100m100m100b1007");
         Check.due("leastBid(0), first in the row", x.leastBid(0), 7);
         Check.due("leastBid(1), no other bids", x.leastBid(1), 1);
@@ -84,6 +93,7 @@ final class ForecastTest {
     }
 
     private static void pillar() {
+        Check.says(25, "Finds the member whom all others need most.");
         SavingsCircle x = Check.circle("C10m100m100m005m020g21");
         Check.due("pillar, who pays for another", x.pillar(), 1);
         x.setGuarantor(2, 3);
@@ -105,6 +115,8 @@ final class ForecastTest {
     }
 
     private static void when() {
+        Check.says(26, "Tells when a member would take the pot.");
+        Check.says(26, "`i`: member");
         SavingsCircle x = Check.circle("C10m100m005m300g10b2015");
         Check.due("when(2)", x.when(2), 0);
         Check.due("when(1)", x.when(1), 1);
@@ -125,6 +137,8 @@ final class ForecastTest {
     }
 
     private static void inTheEnd() {
+        Check.says(27, "Tells how it ends.");
+        Check.says(27, "`i`: member");
         SavingsCircle x = Check.circle("C10m100m005m300g10b2015");
         Check.due("inTheEnd(0)", x.inTheEnd(0), 107);
         Check.due("inTheEnd(1)", x.inTheEnd(1), 12);

@@ -1,8 +1,11 @@
+import java.io.IOException;
+
 /** Promises 6 to 10: about, member, owes, chain, rate. */
 final class QueriesTest {
     private static final String THREE = "C10m100m005m300g10b2015";
 
-    public static void main(String[] args) {
+    public static void main(String[] args) throws IOException {
+        Check.readDocument(args);
         about();
         member();
         owes();
@@ -24,6 +27,9 @@ final class QueriesTest {
     }
 
     private static void about() {
+        Check.says(6, "Returns a number.");
+        Check.says(6, "`what`: 0: the number of members;");
+        Check.says(6, "Returns that number.");
         SavingsCircle x = Check.circle(THREE);
         aboutIs("at first", x, 3, 3, 0, 10, 0, 405, 3, 0, 405);
         x.month();
@@ -43,6 +49,10 @@ final class QueriesTest {
     }
 
     private static void member() {
+        Check.says(7, "Returns a number of a member.");
+        Check.says(7, "`i`: member");
+        Check.says(7, "`what`: 0: its purse;");
+        Check.says(7, "Returns that number.");
         SavingsCircle x = Check.circle(THREE);
         memberIs("at first", x, 0, 100, Check.NONE, 0, 0, 0, 1, 0, 0, 0, 0, 0);
         memberIs("at first", x, 1, 5, 0, 0, 0, 0, 1, 0, 0, 0, 0, 0);
@@ -69,6 +79,10 @@ final class QueriesTest {
     }
 
     private static void owes() {
+        Check.says(8, "Returns a debt.");
+        Check.says(8, "`i`: member who owes");
+        Check.says(8, "`j`: another member");
+        Check.says(8, "Returns the pence that i owes to j.");
         SavingsCircle x = Check.circle(THREE);
         x.month();
         Check.due("owes(1, 0)", x.owes(1, 0), 10);
@@ -83,6 +97,9 @@ final class QueriesTest {
     }
 
     private static void chain() {
+        Check.says(9, "Tells how far a chain of guarantors goes.");
+        Check.says(9, "`i`: member");
+        Check.says(9, "Returns the number of different members in the chain of this one, its guarantor, the guarantor of that one, and so on,");
         SavingsCircle x = Check.circle("C10m000m000m000m000m000g01g12g21g34");
         int[] due = {3, 2, 2, 2, 1};
         for (int i = 0; i < due.length; i++) {
@@ -102,6 +119,9 @@ final class QueriesTest {
     }
 
     private static void rate() {
+        Check.says(10, "Returns a rate.");
+        Check.says(10, "`i`: member");
+        Check.says(10, "Returns the bits of a float:");
         SavingsCircle x = Check.circle(THREE);
         Check.due("rate before anything", x.rate(0), 0);
         x.month();
@@ -125,26 +145,38 @@ final class QueriesTest {
     /** Many quotients, small and great, rounded up and down. */
     private static void longRates() {
         for (int c = 1; c <= 50; c++) {
-            SavingsCircle x = new SavingsCircle();
-            x.setContribution(c);
-            for (int i = 0; i < 8; i++) {
-                x.addMember(40 * i + 3);
-                if (i > 0) {
-                    x.setGuarantor(i, i - 1);
-                }
-            }
-            x.setGuarantor(0, 7);
-            for (int k = 0; k < 60; k++) {
+            for (int months : new int[] {0, 1, 2, 3, 4, 5, 6, 7, 8, 9, 10, 12, 20, 35, 60}) {
+                SavingsCircle x = ringAfter(c, months);
                 for (int i = 0; i < 8; i++) {
-                    if (x.member(i, 4) == 0) {
-                        x.bid(i, (7 * k + 13 * i) % 90);
-                    }
                     float got = (float) (x.member(i, 8) + x.member(i, 9));
                     float paid = (float) (x.member(i, 6) + x.member(i, 7));
                     Check.due("rate", x.rate(i), paid == 0f ? 0 : Float.floatToIntBits(got / paid));
                 }
-                x.month();
             }
         }
+    }
+
+    /** 8 members, poor and rich, each of them the guarantor of the next one; in the first months they bid. */
+    private static SavingsCircle ringAfter(int contribution, int months) {
+        SavingsCircle x = new SavingsCircle();
+        x.setContribution(contribution);
+        boolean[] taken = new boolean[8];
+        for (int i = 0; i < 8; i++) {
+            x.addMember(40 * i + 3);
+            x.setGuarantor(i, i > 0 ? i - 1 : Check.NONE);
+        }
+        x.setGuarantor(0, 7);
+        for (int k = 0; k < months; k++) {
+            for (int i = 0; i < 8 && k < 10; i++) {
+                if (!taken[i]) {
+                    x.bid(i, (7 * k + 13 * i) % 90);
+                }
+            }
+            int winner = x.month();
+            if (winner != SavingsCircle.NONE) {
+                taken[winner] = true;
+            }
+        }
+        return x;
     }
 }

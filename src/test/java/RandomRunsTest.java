@@ -1,43 +1,85 @@
+import java.io.IOException;
+import java.util.Arrays;
 import java.util.Random;
 
 /**
- * Long runs of calls (the seeds are fixed). What is told ahead is compared with what the actions
+ * Long runs of actions (the seeds are fixed). What is told ahead is compared with what the actions
  * then do, and each month with the document's five parts, worked out here from what can be asked.
+ * An object is used for at most 512 calls, so each question is put to an object of its own, which
+ * has come to the same place by the same actions.
  */
 final class RandomRunsTest {
     private static final int NONE = Check.NONE;
+    private static final int RUNS = 400;
+    private static final int STEPS = 60;
 
-    public static void main(String[] args) {
-        for (int seed = 0; seed < 400; seed++) {
-            run(new Random(seed), seed);
+    public static void main(String[] args) throws IOException {
+        Check.readDocument(args);
+        Check.says(0, "A savings circle: members pay in each month, and one of them takes the pot, who bids most for it, or whose turn it is; what is bid is shared by the others, guarantors pay for those who do not, debts are paid back from the pot, members leave early.");
+        Check.says(0, "It tells who wins, which bid would do, when each one takes the pot, how all of it ends, and keeps account of each penny. Changes can be undone.");
+        for (int seed = 0; seed < RUNS; seed++) {
+            for (int steps = 1; steps <= STEPS; steps++) {
+                String at = "seed " + seed + ", step " + steps + ": ";
+                action(seed, steps, at);
+                if (steps % 3 == 1) {
+                    Place place = new Place(seed, steps);
+                    months(place, at);
+                    leastBids(place, at);
+                    pillar(place, at);
+                    ends(place, at);
+                    script(place, at);
+                    simulation(place, at);
+                }
+            }
         }
         Check.end();
     }
 
-    private static void run(Random random, int seed) {
-        SavingsCircle x = new SavingsCircle();
-        for (int k = 0; k < 60; k++) {
-            String at = "seed " + seed + ", step " + k + ": ";
-            act(x, random);
-            Check.due(at + "no penny is lost", x.about(4) + x.about(5), x.about(8));
-            if (k % 3 == 0) {
-                months(x, at);
-                leastBids(x, at, random);
-                pillar(x, at);
-                ends(x, at);
-                script(x, at, random);
-                simulation(x, at, random);
+    /** Where a run is after some steps. */
+    private static final class Place {
+        final int seed;
+        final int steps;
+        /** For the questions that are put there. */
+        final Random random;
+
+        Place(int seed, int steps) {
+            this.seed = seed;
+            this.steps = steps;
+            random = new Random(1000L * seed + steps);
+        }
+
+        /** At most two calls a step. */
+        SavingsCircle circle() {
+            SavingsCircle x = new SavingsCircle();
+            Random actions = new Random(seed);
+            for (int k = 0; k < steps; k++) {
+                act(x, actions);
             }
+            return x;
         }
     }
 
-    /** An action, more often one that is allowed than not; those that are not must change nothing. */
-    private static void act(SavingsCircle x, Random random) {
+    private static void action(int seed, int steps, String at) {
+        SavingsCircle x = new SavingsCircle();
+        Random actions = new Random(seed);
+        for (int k = 1; k < steps; k++) {
+            act(x, actions);
+        }
         String before = Check.all(x);
+        boolean done = act(x, actions);
+        if (!done) {
+            Check.same(at + "a call that throws must change nothing", Check.all(x), before);
+        }
+        Check.due(at + "no penny is lost", x.about(4) + x.about(5), x.about(8));
+    }
+
+    /** An action, more often one that is allowed than not; tells whether it was. */
+    private static boolean act(SavingsCircle x, Random random) {
         try {
             tryAction(x, random, random.nextInt(20), random.nextInt(9) - (random.nextInt(20) == 0 ? 9 : 0));
+            return true;
         } catch (IllegalArgumentException | IllegalStateException | IndexOutOfBoundsException e) {
-            Check.same("a call that throws must change nothing", Check.all(x), before);
+            return false;
         }
     }
 
@@ -66,51 +108,60 @@ final class RandomRunsTest {
     }
 
     /** What is told of a month, what month() does, and what the document says, are the same. */
-    private static void months(SavingsCircle x, String at) {
+    private static void months(Place place, String at) {
+        SavingsCircle x = place.circle();
         Month due = new Month(x);
         Check.due(at + "winner", x.winner(), due.taker);
         Check.due(at + "pot", x.pot(), due.pot);
         for (int i = 0; i < due.n; i++) {
-            Check.due(at + "change", x.change(i), due.purse[i] - x.member(i, 0));
+            Check.due(at + "change", x.change(i), due.purse[i] - due.facts[i][0]);
         }
         if (x.about(1) == 0 || x.about(2) == 99) {
             Check.refused(x, at + "month", Check.STATE, () -> x.month());
             return;
         }
-        String before = Check.all(x);
-        Check.due(at + "month", x.month(), due.taker);
-        Check.same(at + "after the month", Check.all(x), due.all(x));
-        x.undo();
-        Check.same(at + "undo", Check.all(x), before);
+        SavingsCircle y = place.circle();
+        Check.due(at + "month", y.month(), due.taker);
+        Check.same(at + "after the month", Check.all(y), due.all(y));
+        SavingsCircle z = place.circle();
+        z.month();
+        z.undo();
+        Check.same(at + "undo", Check.all(z), Check.all(place.circle()));
     }
 
-    private static void leastBids(SavingsCircle x, String at, Random random) {
-        int n = x.about(0);
+    /** No bid above half of the pot counts for more than that half; so one more than that is enough to try. */
+    private static void leastBids(Place place, String at) {
+        SavingsCircle asked = place.circle();
+        int n = asked.about(0);
         if (n == 0) {
             return;
         }
-        int i = random.nextInt(n);
+        int i = place.random.nextInt(n);
+        boolean may = asked.member(i, 4) == 0 && asked.member(i, 5) == 1;
+        int top = asked.pot() / 2 + 1;
         int found = NONE;
-        if (x.member(i, 4) == 0 && x.member(i, 5) == 1) {
-            for (int b = 0; b <= 999 && found == NONE; b++) {
-                x.bid(i, b);
-                if (x.winner() == i) {
-                    found = b;
-                }
-                x.undo();
+        SavingsCircle x = place.circle();
+        for (int b = 0; may && b <= top && found == NONE; b++) {
+            if (b % 100 == 99) {
+                x = place.circle();
             }
+            x.bid(i, b);
+            found = x.winner() == i ? b : NONE;
         }
-        Check.due(at + "leastBid", x.leastBid(i), found);
+        Check.due(at + "leastBid", asked.leastBid(i), found);
     }
 
-    private static void pillar(SavingsCircle x, String at) {
+    private static void pillar(Place place, String at) {
+        SavingsCircle x = place.circle();
         int found = NONE;
         int least = Integer.MAX_VALUE;
-        for (int i = 0; i < x.about(0); i++) {
+        int n = x.about(0);
+        for (int i = 0; i < n; i++) {
             if (x.member(i, 5) == 1) {
                 x.stayAway(i, true);
-                if (x.pot() < least) {
-                    least = x.pot();
+                int pot = x.pot();
+                if (pot < least) {
+                    least = pot;
                     found = i;
                 }
                 x.undo();
@@ -119,41 +170,35 @@ final class RandomRunsTest {
         Check.due(at + "pillar", x.pillar(), found);
     }
 
-    private static void ends(SavingsCircle x, String at) {
-        int n = x.about(0);
-        int[] when = new int[n];
-        int[] purse = new int[n];
-        for (int i = 0; i < n; i++) {
-            when[i] = x.when(i);
-            purse[i] = x.inTheEnd(i);
-        }
+    private static void ends(Place place, String at) {
+        SavingsCircle asked = place.circle();
+        int n = asked.about(0);
         int[] taken = new int[n];
-        java.util.Arrays.fill(taken, NONE);
-        x.save(0);
-        for (int k = 0; k < 20 && x.about(1) > 0 && x.about(2) < 99; k++) {
-            int present = x.about(2);
+        Arrays.fill(taken, NONE);
+        SavingsCircle x = place.circle();
+        int month = x.about(2);
+        int months = x.about(1) > 0 ? Math.min(20, 99 - month) : 0;
+        for (int k = 0; k < months; k++) {
             int who = x.month();
             if (who != NONE) {
-                taken[who] = present;
+                taken[who] = month + k;
             }
         }
-        x.restore(0);
-        for (int k = 0; k < 20 && x.about(6) > 0 && x.about(2) < 99; k++) {
-            x.month();
+        SavingsCircle y = place.circle();
+        for (int k = 0; k < months && y.about(6) > 0; k++) {
+            y.month();
         }
         for (int i = 0; i < n; i++) {
-            Check.due(at + "when", when[i], taken[i]);
-            Check.due(at + "inTheEnd", purse[i], x.member(i, 0));
+            Check.due(at + "when", asked.when(i), taken[i]);
+            Check.due(at + "inTheEnd", asked.inTheEnd(i), y.member(i, 0));
         }
-        x.restore(0);
     }
 
-    private static void script(SavingsCircle x, String at, Random random) {
+    private static void script(Place place, String at) {
+        Random random = place.random;
         int n = 1 + random.nextInt(3);
         long script = 0;
         int failed = NONE;
-        x.save(0);
-        String before = Check.all(x);
         int[] groups = new int[n];
         for (int k = 0; k < n; k++) {
             int zeros = random.nextInt(4);
@@ -161,14 +206,16 @@ final class RandomRunsTest {
                 + (zeros == 0 ? 0 : zeros == 1 ? random.nextInt(9) * 100 : random.nextInt(zeros == 2 ? 100 : 1000));
             script = script * 100000 + groups[k];
         }
+        SavingsCircle x = place.circle();
+        String before = Check.all(x);
         int got = x.runScript(n, script);
         Check.same(at + "runScript must change nothing", Check.all(x), before);
+        SavingsCircle y = place.circle();
         for (int k = 0; k < n && failed == NONE; k++) {
-            if (!command(x, groups[k])) {
+            if (!command(y, groups[k])) {
                 failed = k;
             }
         }
-        x.restore(0);
         Check.due(at + "runScript(" + n + ", " + script + ")", got, failed);
     }
 
@@ -198,38 +245,10 @@ final class RandomRunsTest {
         }
     }
 
-    private static void simulation(SavingsCircle x, String at, Random random) {
-        long seed = random.nextLong();
-        int months = 1 + random.nextInt(40);
-        int n = x.about(0);
-        int missed = 0;
-        int taken = 0;
-        int got = x.simulate(seed, months);
-        x.save(0);
-        for (int i = 0; i < n; i++) {
-            missed -= x.member(i, 10);
-        }
-        for (int k = 0; k < months; k++) {
-            for (int i = 0; i < n; i++) {
-                seed = seed * 6364136223846793005L + 1442695040888963407L;
-                int r = (int) (seed >>> 33);
-                if (x.member(i, 5) == 1) {
-                    x.stayAway(i, r % 8 == 0);
-                    if (x.member(i, 4) == 0) {
-                        x.bid(i, r / 8 % 40);
-                    }
-                }
-            }
-            if (x.about(1) > 0 && x.about(2) < 99) {
-                x.month();
-            }
-        }
-        for (int i = 0; i < n; i++) {
-            missed += x.member(i, 10);
-            taken += x.member(i, 4);
-        }
-        x.restore(0);
-        Check.due(at + "simulate", got, 1000 * taken + Math.min(missed, 999));
+    private static void simulation(Place place, String at) {
+        long seed = place.random.nextLong();
+        int months = 1 + place.random.nextInt(25);
+        Check.due(at + "simulate", place.circle().simulate(seed, months), Simulation.of(place.circle(), seed, months));
     }
 
     /** The document's five parts, worked out from what can be asked of a circle. */

@@ -1,8 +1,11 @@
+import java.io.IOException;
+
 /** Promises 28 and 29: runScript, simulate. */
 final class ScriptTest {
     private static final int NONE = Check.NONE;
 
-    public static void main(String[] args) {
+    public static void main(String[] args) throws IOException {
+        Check.readDocument(args);
         ranges();
         months();
         bids();
@@ -25,9 +28,9 @@ final class ScriptTest {
     }
 
     private static void one(SavingsCircle x, int group, boolean works) {
-        String before = Check.all(x);
+        String before = Check.numbers(x);
         Check.due("runScript(1, " + group + ")", x.runScript(1, group), works ? NONE : 0);
-        Check.same("runScript(1, " + group + ") must change nothing", Check.all(x), before);
+        Check.same("runScript(1, " + group + ") must change nothing", Check.numbers(x), before);
     }
 
     private static void ranges() {
@@ -148,6 +151,7 @@ final class ScriptTest {
     }
 
     private static void questions() {
+        Check.says(28, "7 i x y z: succeeds if the purse of i has at least xyz pence. 8 i j x y: succeeds if i owes at most xy pence to j. 9 i 0 0 0: succeeds if i has taken the pot.");
         SavingsCircle x = three();
         one(x, 70000, true);
         one(x, 70087, true);
@@ -171,6 +175,7 @@ final class ScriptTest {
     }
 
     private static void rows() {
+        Check.says(28, "A script has 1 to 3 commands; each is a group of five decimal digits d1 to d5, and the first command is the highest group of the number");
         SavingsCircle x = three();
         Check.due("the first command is the highest group", x.runScript(2, 1000191000L), NONE);
         Check.due("turned round", x.runScript(2, 9100010001L), 0);

@@ -1,12 +1,17 @@
+import java.io.IOException;
+
 /** Promises 30 and 31: save, restore. */
 final class SlotTest {
-    public static void main(String[] args) {
+    public static void main(String[] args) throws IOException {
+        Check.readDocument(args);
         save();
         restore();
         Check.end();
     }
 
     private static void save() {
+        Check.says(30, "Stores the present state in a save slot.");
+        Check.says(30, "`slot`: 0 or 1");
         SavingsCircle x = Check.circle("C10m100m050");
         x.month();
         x.month();
@@ -21,6 +26,8 @@ final class SlotTest {
     }
 
     private static void restore() {
+        Check.says(31, "`slot`: 0 or 1");
+        Check.says(31, "Returns the month then.");
         SavingsCircle x = Check.circle("C10m100m005m300g10b2015");
         x.month();
         String saved = Check.all(x);

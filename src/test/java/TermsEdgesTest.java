@@ -10,6 +10,7 @@ final class TermsEdgesTest {
         memberNumbers();
         pursesAndGuarantors();
         bids();
+        marks();
         takenOnce();
         debts();
         contribution();
@@ -25,6 +26,7 @@ final class TermsEdgesTest {
         shares();
         sharesOfNobody();
         paidBack();
+        intoPurses();
         afterTheMonth();
         pence();
         leavingBefore();
@@ -36,7 +38,7 @@ final class TermsEdgesTest {
     }
 
     private static void calls() {
-        Check.says(0, "An object is used for at most 512 calls after it has been made; what later calls answer is free.");
+        Check.says(0, "An object is used for at most 512 calls after it has been made");
         SavingsCircle x = new SavingsCircle();
         for (int k = 1; k <= 511; k++) {
             Check.due("call " + k, x.setContribution(1 + k % 50), k == 1 ? 10 : 1 + (k - 1) % 50);
@@ -90,6 +92,28 @@ final class TermsEdgesTest {
         Check.due("bid(0, 0)", x.bid(0, 0), 999);
         Check.refused(x, "bid(0, -1)", Check.ARGUMENT, () -> x.bid(0, -1));
         Check.due("the bid in the end", x.member(0, 2), 0);
+    }
+
+    private static void marks() {
+        Check.says(0, "and perhaps a mark that it stays away this month;");
+        SavingsCircle x = Check.circle("C10m100m100m100");
+        Check.due("marks at first", marks(x), 0);
+        x.stayAway(1, true);
+        Check.due("the mark of 1", marks(x), 10);
+        x.stayAway(2, true);
+        Check.due("the marks of 1 and 2", marks(x), 11);
+        x.stayAway(1, false);
+        Check.due("the mark of 2", marks(x), 1);
+        Check.due("the pot without 2", x.pot(), 20);
+        x.month();
+        Check.due("it stayed away", x.member(2, 10), 1);
+        Check.due("this month alone", marks(x), 0);
+        Check.due("the pot with 2", x.pot(), 30);
+        Check.due("a new member has none", x.member(x.addMember(5), 3), 0);
+    }
+
+    private static int marks(SavingsCircle x) {
+        return 100 * x.member(0, 3) + 10 * x.member(1, 3) + x.member(2, 3);
     }
 
     private static void takenOnce() {
@@ -431,6 +455,21 @@ final class TermsEdgesTest {
         Check.due("purse of the debtor", x.member(debtor, 0), pot - toLow - toHigh);
         Check.due("what it got of the pot", x.member(debtor, 8), pot);
         Check.due("what is paid back is no share", x.member(low, 9) + x.member(high, 9), 0);
+    }
+
+    /** 0 owes 10 to 1, bids 6 for the pot of 30, and so gets 24; 1 and 2 have their shares of 3. */
+    private static void intoPurses() {
+        Check.says(0, "Pence that a member gets from others, as shares, and of the pot (less what it pays to those whom it owes) come into its purse.");
+        SavingsCircle x = Check.circle("C10m000m100m100g01b1001");
+        x.month();
+        x.setGuarantor(0, NONE);
+        x.give(0, 10);
+        x.bid(0, 6);
+        int[] before = {x.member(0, 0), x.member(1, 0), x.member(2, 0)};
+        Check.due("0 takes the pot", x.month(), 0);
+        Check.due("of the pot, less what it pays", x.member(0, 0), before[0] - 10 + 24 - 10);
+        Check.due("a share, and from others", x.member(1, 0), before[1] - 10 + 3 + 10);
+        Check.due("a share", x.member(2, 0), before[2] - 10 + 3);
     }
 
     private static void afterTheMonth() {

@@ -53,7 +53,7 @@ final class TextEdgesTest {
         Check.refused(x, "owes(0, 1)", Check.NO_SUCH, () -> x.owes(0, 1));
         Check.refused(x, "chain(0)", Check.NO_SUCH, () -> x.chain(0));
         Check.refused(x, "rate(0)", Check.NO_SUCH, () -> x.rate(0));
-        Check.due("nothing is remembered, saved or written", Check.everything(x)
+        Check.due("nothing is remembered, saved or written", Check.everything(SavingsCircle::new)
             .equals("0 0 0 10 0 0 0 0 0 text 0\n    slot 0: empty\n    slot 1: empty\n    text of 0") ? 1 : 0, 1);
     }
 
@@ -154,6 +154,7 @@ final class TextEdgesTest {
     }
 
     private static void firstNotAllowed() {
+        Check.says(0, "The text is read from left to right.");
         Check.says(0, "The error position is the index of the first character that these rules do not allow at its place");
         is("x", 0);
         is("xyz", 0);
@@ -390,14 +391,9 @@ final class TextEdgesTest {
 
     private static void loaded() {
         Check.says(5, "Replaces everything by the circle of the text, in the month 0. Forgets all remembered states and empties both save slots. Keeps the text.");
-        SavingsCircle x = written();
-        x.save(0);
-        x.setContribution(50);
-        x.addMember(9);
-        x.leave(1);
-        Check.write(x, "C20m001m002m003b1004");
-        Check.due("load", x.load(), 3);
-        Check.same("everything", Check.everything(x), Check.everything(Check.circle("C20m001m002m003b1004")));
+        Check.due("load", loadedOver("C20m001m002m003b1004").about(0), 3);
+        Check.same("everything", Check.everything(() -> loadedOver("C20m001m002m003b1004")),
+            Check.everything(() -> Check.circle("C20m001m002m003b1004")));
         SavingsCircle y = Check.circle("C10m100m100g01");
         y.month();
         y.save(0);
@@ -416,6 +412,17 @@ final class TextEdgesTest {
         Check.refused(y, "restore(1)", Check.STATE, () -> y.restore(1));
         Check.due("load again", y.load(), 0);
         Check.due("the text stays", y.clearText(), 3);
+    }
+
+    private static SavingsCircle loadedOver(String text) {
+        SavingsCircle x = written();
+        x.save(0);
+        x.setContribution(50);
+        x.addMember(9);
+        x.leave(1);
+        Check.write(x, text);
+        Check.due("load", x.load(), x.about(0));
+        return x;
     }
 
     private static void notLoaded() {

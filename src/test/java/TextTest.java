@@ -1,6 +1,9 @@
+import java.io.IOException;
+
 /** Promises 1 to 5: a new object, append, clearText, errorPosition, load. */
 final class TextTest {
-    public static void main(String[] args) {
+    public static void main(String[] args) throws IOException {
+        Check.readDocument(args);
         newObject();
         append();
         clearText();
@@ -31,6 +34,8 @@ final class TextTest {
     }
 
     private static void append() {
+        Check.says(2, "Appends a character to the text buffer.");
+        Check.says(2, "Returns the new length of the text.");
         SavingsCircle x = new SavingsCircle();
         Check.due("append(0)", x.append(0), 1);
         Check.due("append(255)", x.append(255), 2);
@@ -47,6 +52,7 @@ final class TextTest {
     }
 
     private static void clearText() {
+        Check.says(3, "Empties the text buffer.");
         SavingsCircle x = new SavingsCircle();
         Check.write(x, "C10m010");
         Check.due("clearText", x.clearText(), 7);
@@ -122,9 +128,9 @@ final class TextTest {
 
     /** What stood in the buffer before it was emptied is not read. */
     private static void earlierSigns() {
-        SavingsCircle x = new SavingsCircle();
         String text = "C10m123m456g01b1789";
         for (int length = 0; length < text.length(); length++) {
+            SavingsCircle x = new SavingsCircle();
             Check.write(x, text);
             Check.due("errorPosition of the whole", x.errorPosition(), Check.NONE);
             Check.write(x, text.substring(0, length));
@@ -146,6 +152,7 @@ final class TextTest {
     }
 
     private static void load() {
+        Check.says(5, "Returns the number of members.");
         SavingsCircle x = new SavingsCircle();
         Check.write(x, "C07m012m345g01b1999g10m000g02b1020g20");
         Check.due("load", x.load(), 3);

@@ -66,7 +66,14 @@ final class UndoEdgesTest {
         action.accept(x);
         Check.due(what + " is remembered", x.undo(), count);
         Check.same(what + " is taken back", Check.all(x), before);
-        Check.same(what + " has left no trace", Check.everything(x), Check.everything(Circles.rich()));
+        Check.same(what + " has left no trace", Check.everything(() -> takenBack(action)), Check.everything(Circles::rich));
+    }
+
+    private static SavingsCircle takenBack(Consumer<SavingsCircle> action) {
+        SavingsCircle x = Circles.rich();
+        action.accept(x);
+        x.undo();
+        return x;
     }
 
     private static void nothingDifferent() {
@@ -181,10 +188,10 @@ final class UndoEdgesTest {
         Check.says(20, "Throws `IllegalStateException` if none is remembered");
         Check.leavesNoTrace("undo of a new object", Check.STATE, SavingsCircle::new, x -> x.undo());
         Check.leavesNoTrace("undo of a loaded circle", Check.STATE, () -> Check.circle("C10m001"), x -> x.undo());
-        Check.leavesNoTrace("undo after all undos", Check.STATE, UndoEdgesTest::takenBack, x -> x.undo());
+        Check.leavesNoTrace("undo after all undos", Check.STATE, UndoEdgesTest::allTakenBack, x -> x.undo());
     }
 
-    private static SavingsCircle takenBack() {
+    private static SavingsCircle allTakenBack() {
         SavingsCircle x = Circles.full();
         Check.due("states that are remembered", Check.countRemembered(x), 14);
         return x;
@@ -211,6 +218,9 @@ final class UndoEdgesTest {
     }
 
     private static void changesNothing() {
+        Check.says(0, "IndexOutOfBoundsException means that a member does not exist, or that a save slot is not 0 or 1.");
+        Check.says(0, "IllegalArgumentException means that another argument is out of its range, or that members that have to be different are not.");
+        Check.says(0, "IllegalStateException means what the method says.");
         Check.says(0, "A call that throws an exception changes nothing.");
         refusedAll(Circles::rich, 4);
         Supplier<SavingsCircle> rich = Circles::rich;
