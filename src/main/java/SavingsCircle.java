@@ -24,7 +24,7 @@ public final class SavingsCircle {
     private final State now = new State();
     private final State trial = new State();
     private final Round round = new Round();
-    private final Script commands = new Script(trial, round);
+    private final Script commands = new Script();
     private final Past past = new Past();
     private final Text text = new Text();
     private final State[] slots = new State[SLOTS];
@@ -299,7 +299,7 @@ public final class SavingsCircle {
         if (script < 0 || withoutLowGroups(script, n) != 0) {
             throw new IllegalArgumentException("the script is negative or too long");
         }
-        trial.copyFrom(now);
+        commands.state.copyFrom(now);
         for (int k = 0; k < n; k++) {
             int group = (int) (withoutLowGroups(script, n - 1 - k) % GROUP);
             if (!commands.succeeds(group)) {
@@ -734,13 +734,8 @@ public final class SavingsCircle {
 
     /** The commands of scripts, on a state that is a copy already. */
     private static final class Script {
-        private final State state;
-        private final Round round;
-
-        Script(State state, Round round) {
-            this.state = state;
-            this.round = round;
-        }
+        final State state = new State();
+        private final Round round = new Round();
 
         /** The group is 0 to 99999. What a command that fails leaves behind does not matter. */
         boolean succeeds(int group) {

@@ -18,7 +18,7 @@ final class CallsTest {
     private static final String COUNTER = "\n    private int callsSoFar;\n\n    private void countCall() {\n        callsSoFar++;\n"
         + "        if (callsSoFar > 512) {\n            throw new Error(\"a test asks for a call behind the 512th\");\n        }\n    }\n}\n";
 
-    public static void main(String[] args) throws IOException, ReflectiveOperationException {
+    public static void main(String[] args) throws IOException, InterruptedException {
         Check.readDocument(args);
         Check.says(0, "An object is used for at most 512 calls after it has been made; what later calls answer is free.");
         Build build = new Build(args, "calls");
@@ -35,7 +35,7 @@ final class CallsTest {
         }
         build.compile(files);
         for (String test : tests) {
-            System.out.print(test + ": ");
+            System.out.println(test + ", with a counting class:");
             build.run(test, args);
         }
         Check.due("there are tests", tests.isEmpty() ? 0 : 1, 1);

@@ -1,6 +1,8 @@
 import java.io.IOException;
+import java.util.List;
 import java.util.function.Supplier;
 import java.util.function.ToIntBiFunction;
+import java.util.function.ToIntFunction;
 
 /** The boundary cases of promises 21 to 27, sentence by sentence. */
 final class ForecastEdgesTest {
@@ -27,6 +29,7 @@ final class ForecastEdgesTest {
         inTheEndAsFar();
         inTheEndNow();
         theyChangeNothing();
+        whatWasAskedBefore();
         Check.end();
     }
 
@@ -326,6 +329,32 @@ final class ForecastEdgesTest {
                 Check.leavesNoTrace("leastBid", Check.NOTHING, making, x -> x.leastBid(i));
                 Check.leavesNoTrace("when", Check.NOTHING, making, x -> x.when(i));
                 Check.leavesNoTrace("inTheEnd", Check.NOTHING, making, x -> x.inTheEnd(i));
+            }
+        }
+    }
+
+    /** An answer does not depend on what was asked before, nor on a text that has been read, but not loaded. */
+    private static void whatWasAskedBefore() {
+        Check.says(0, "these and all following methods up to the save slots change nothing.");
+        List<ToIntFunction<SavingsCircle>> questions = List.of(x -> x.winner(), x -> x.pot(), x -> x.pillar(),
+            x -> x.runScript(3, 10001_70001_91000L), x -> x.simulate(7, 5),
+            x -> x.change(0), x -> x.leastBid(0), x -> x.when(0), x -> x.inTheEnd(0));
+        String[] texts = {"C01", "C01m001", "C50" + "m999".repeat(8) + "g70b7999"};
+        for (Supplier<SavingsCircle> making : Circles.all()) {
+            List<ToIntFunction<SavingsCircle>> possible = questions.subList(0, making.get().about(0) > 0 ? 9 : 5);
+            for (ToIntFunction<SavingsCircle> question : possible) {
+                int due = question.applyAsInt(making.get());
+                for (ToIntFunction<SavingsCircle> before : possible) {
+                    SavingsCircle x = making.get();
+                    before.applyAsInt(x);
+                    Check.due("after another question", question.applyAsInt(x), due);
+                }
+                for (String text : texts) {
+                    SavingsCircle x = making.get();
+                    Check.write(x, text);
+                    Check.due("errorPosition", x.errorPosition(), NONE);
+                    Check.due("after errorPosition of " + text, question.applyAsInt(x), due);
+                }
             }
         }
     }

@@ -14,7 +14,7 @@ final class ReadmeTest {
     private static final Pattern EXAMPLE = Pattern.compile("```java\n(.*?)```", Pattern.DOTALL);
     private static final Pattern ANSWER = Pattern.compile("\\s*(.+); *// (NONE|true|false|-?[0-9]+(?:\\.[0-9]+)?|throws [A-Za-z]+)(?:: .*)?");
 
-    public static void main(String[] args) throws IOException, ReflectiveOperationException {
+    public static void main(String[] args) throws IOException, InterruptedException {
         Check.readDocument(args);
         String readme = Files.readString(Path.of("README.md"));
         groups(readme, new Doc(Path.of(args[1])));
@@ -46,11 +46,12 @@ final class ReadmeTest {
     private static String exampleOf(String readme, String group) {
         int from = readme.toLowerCase().indexOf("\n### " + group + "\n");
         Check.due("README.md has a section for \"" + group + "\"", from >= 0 ? 1 : 0, 1);
-        Matcher m = EXAMPLE.matcher(readme);
-        return from >= 0 && m.find(from) ? m.group(1) : "";
+        int next = readme.indexOf("\n#", from + 1);
+        Matcher m = EXAMPLE.matcher(readme.substring(Math.max(from, 0), next < 0 ? readme.length() : next));
+        return from >= 0 && m.find() ? m.group(1) : "";
     }
 
-    private static void run(String readme, String[] args) throws IOException, ReflectiveOperationException {
+    private static void run(String readme, String[] args) throws IOException, InterruptedException {
         StringBuilder program = new StringBuilder("final class Examples {\n    public static void main(String[] args) {\n");
         Matcher m = EXAMPLE.matcher(readme);
         while (m.find()) {
